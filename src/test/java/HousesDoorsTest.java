@@ -78,11 +78,29 @@ public final class HousesDoorsTest {
         x.agree(1, 0, 1);
         due.is("3: agrees", 6, x.houseTold(0, 5));
         due.is("3: agrees", 1, x.houseTold(2, 5));
+        hearsOfTwelve();
         for (int h : new int[] {-1, 3, 10, MIN, MAX}) {
             due.is("3: bad house", Due.BAD, x.houseTold(h, 0));
         }
         for (int w : new int[] {-1, 6, MIN, MAX}) {
             due.is("3: bad what", Due.BAD, x.houseTold(0, w));
+        }
+    }
+
+    private static void hearsOfTwelve() {
+        TwoBells x = Due.town(3);
+        int loadOf1 = 0;
+        int hearsOf1 = 0;
+        for (int d = 0; d < 12; d++) {
+            x.door(2, 1);
+            x.set(d, 2, d % 10);
+            x.wire(d, 0, d % 2);
+            x.wire(d, 1, d % 3);
+            int bells = (d % 2 == 1 ? 1 : 0) + (d % 3 == 1 ? 1 : 0);
+            loadOf1 += bells;
+            hearsOf1 += bells * (d % 10);
+            due.is("3: load of many", loadOf1, x.houseTold(1, 2));
+            due.is("3: hears many", hearsOf1, x.houseTold(1, 3));
         }
     }
 

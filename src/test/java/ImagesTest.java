@@ -8,6 +8,7 @@ public final class ImagesTest {
         check();
         checkGoesByTheImage();
         checkOfThirty();
+        imageOfAll();
         keepAndBack();
         backAgainAndAgain();
         whatNoImageKeeps();
@@ -125,6 +126,65 @@ public final class ImagesTest {
         due.is("43: thirty", 0, checked(x, told, 60, 30));
         due.is("43: the last is missing", 60, checked(x, told, 59, 30));
         due.is("43: two too many", 59, checked(x, told, 60, 29));
+    }
+
+    /** As much as there can be of all, so that no part of a row is left out. */
+    private static void imageOfAll() {
+        TwoBells x = new TwoBells();
+        x.keep();
+        for (int h = 0; h < 10; h++) {
+            x.house(50 + h, 90 + h);
+        }
+        for (int d = 0; d < 12; d++) {
+            x.door(9 - d % 4, 500 + d);
+            x.set(d, 2, d % 10);
+            x.wire(d, 0, d % 5);
+            x.wire(d, 1, (d + 1) % 6);
+        }
+        for (int t = 0; t < 6; t++) {
+            x.thief(t, 9 - t % 4);
+        }
+        x.agree(8, 9, 1);
+        for (int i = 0; i < 14; i++) {
+            Due.tell(x, i % 2 == 0 ? "come a*c/150" : "gain w*m/9000");
+        }
+        due.is("44: twelve doors", 12, x.keep());
+        int[] told = nightsTold(x, 7);
+        due.is("43: of all", 0, checked(x, told, 14, 7));
+        for (int d = 0; d < 12; d++) {
+            x.set(d, 1, 0);
+            x.set(d, 2, 0);
+            x.wire(d, 0, Due.NONE);
+            x.wire(d, 1, Due.NONE);
+        }
+        for (int h = 0; h < 10; h++) {
+            x.change(h, 0, 0);
+            x.change(h, 1, 0);
+        }
+        for (int t = 0; t < 6; t++) {
+            x.turns(t, 0);
+        }
+        x.agree(8, 9, 0);
+        due.is("43: of all, by the image", 0, checked(x, told, 14, 7));
+        due.is("45: twelve doors", 12, x.back());
+        for (int d = 0; d < 12; d++) {
+            int[] want = {9 - d % 4, 500 + d, d % 10, d % 5, (d + 1) % 6};
+            for (int what = 0; what < 5; what++) {
+                due.is("45: door " + d + " " + what, want[what], x.doorTold(d, what));
+            }
+        }
+        for (int h = 0; h < 10; h++) {
+            due.is("45: awake", 50 + h, x.houseTold(h, 0));
+            due.is("45: cares", 90 + h, x.houseTold(h, 1));
+            due.is("45: agrees", h == 8 ? 512 : h == 9 ? 256 : 0, x.houseTold(h, 5));
+        }
+        for (int t = 0; t < 6; t++) {
+            due.is("45: kind", t, x.told(t, 0));
+            due.is("45: house", 9 - t % 4, x.told(t, 1));
+        }
+        due.is("45: fourteen texts", 14, x.count(6));
+        due.is("45: the last of come", 12, x.why(0));
+        due.is("45: the last of gain", 13, x.why(1));
     }
 
     private static void keepAndBack() {

@@ -78,6 +78,12 @@ public final class TextsTest {
         faultAt(" comes a", 1);
         faultAt("comea", 0);
         faultAt("com", 0);
+        faultAt("comez", 0);
+        faultAt("acome z", 0);
+        faultAt("xome a", 0);
+        faultAt("comx a", 0);
+        faultAt("mai p", 0);
+        faultAt("gai w", 0);
         faultAt("5 + a", 0);
         faultAt("(come a)", 0);
         faultAt("Come a", 0);
@@ -183,6 +189,13 @@ public final class TextsTest {
         due.is("30: used up by a fault", 0, x.count(8));
         due.is("30: nothing is left", -100, x.text());
         due.is("30: one text", 1, x.count(6));
+        for (String spoilt : new String[] {"come ((((((((a+", "come !!!!!!!!", "come a+c*(", "may p<q<"}) {
+            Due.tell(x, spoilt);
+            due.holds("30: nothing is left of '" + spoilt + "'", Due.tell(x, "come !!!!!!!!((((((((a+c))))))))") > 0);
+            due.is("31: nothing is left", 2, x.textTold(x.why(0), 1));
+            Due.tell(x, spoilt);
+            due.is("30: nothing is left of '" + spoilt + "'", -106, Due.tell(x, "come a)"));
+        }
     }
 
     private static void full() {

@@ -14,7 +14,9 @@ public final class ThievesTest {
         heed();
         choice();
         choiceByLot();
+        choiceOfMany();
         nights();
+        nightsAtTheEdge();
         seed();
         due.end();
     }
@@ -219,6 +221,56 @@ public final class ThievesTest {
             due.is("18: by lot", door, x.choice(i % 3));
             due.is("18: one draw", z, x.count(9));
         }
+    }
+
+    private static void choiceOfMany() {
+        TwoBells x = Due.town(3);
+        x.thief(0, 0);
+        x.door(1, 5);
+        due.is("18: the only door, by lot", 0, x.choice(0));
+        for (int d = 1; d < 12; d++) {
+            x.door(d % 2, 10 + d);
+        }
+        for (int kind = 1; kind < 6; kind++) {
+            x.thief(kind, 1);
+        }
+        x.turns(5, 3);
+        due.is("18: the last of thieves", 10, x.choice(5));
+        due.is("18: quick", 10, x.choice(4));
+        x.set(11, 1, 999);
+        due.is("18: the last door is open to him", 10, x.choice(5));
+        due.is("24: the last door", 11, x.worst(1));
+        due.is("24: the first thief", 0, x.worst(0));
+        x.seed(5);
+        int first = (Due.draw(5) >>> 8) % 12;
+        due.is("18: of twelve, by lot", (first % 2 == 1 || first == 0 ? first : first + 1), x.choice(0));
+    }
+
+    /** A seed from which the next draw has that rest by 10000. */
+    private static int seedFor(int rest) {
+        int z = 0;
+        while ((Due.draw(z) >>> 8) % 10000 != rest) {
+            z++;
+        }
+        return z;
+    }
+
+    private static void nightsAtTheEdge() {
+        TwoBells x = new TwoBells();
+        x.house(0, 0);
+        x.house(75, 100);
+        x.door(0, 8);
+        x.wire(0, 0, 1);
+        x.thief(1, 1);
+        x.seed(seedFor(2499));
+        due.is("19: just missed", 8, x.nights(1));
+        x.seed(seedFor(2500));
+        due.is("19: just caught", 8, x.nights(1));
+        due.is("19: just caught", 1, x.count(4));
+        x.change(1, 0, 100);
+        x.seed(seedFor(0));
+        due.is("19: never missed", 8, x.nights(1));
+        due.is("19: caught", 2, x.count(4));
     }
 
     private static void nights() {

@@ -184,6 +184,7 @@ public final class WiringsTest {
         for (int w : new int[] {-1, 3, MIN, MAX}) {
             due.is("24: bad", Due.BAD, x.worst(w));
         }
+        worstOfMany();
         TwoBells y = Due.town(2);
         due.is("24: bad ahead of none", Due.BAD, y.worst(3));
         y.door(0, 0);
@@ -193,6 +194,29 @@ public final class WiringsTest {
         due.is("24: gain 0", 0, y.worst(0));
         due.is("24: gain 0", 0, y.worst(1));
         due.is("24: gain 0", 0, y.worst(2));
+    }
+
+    private static void worstOfMany() {
+        TwoBells x = Due.town(3);
+        for (int d = 0; d < 12; d++) {
+            x.door(d % 2, 100 + d);
+            x.wire(d, 0, 2);
+        }
+        x.patience(24);
+        for (int t = 0; t < 6; t++) {
+            x.thief(0, 2);
+        }
+        due.is("24: all are heard", 0, x.worst(2));
+        x.turns(5, 3);
+        due.is("24: the last thief", 5, x.worst(0));
+        due.is("24: the last door", 11, x.worst(1));
+        due.is("24: his gain", 111, x.worst(2));
+        x.turns(4, 2);
+        x.set(3, 1, 999);
+        due.is("24: still the last", 5, x.worst(0));
+        due.is("24: another door", 3, x.worst(1));
+        x.turns(2, 3);
+        due.is("24: the first of two", 2, x.worst(0));
     }
 
     private static void heard() {
