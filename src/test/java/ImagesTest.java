@@ -73,6 +73,9 @@ public final class ImagesTest {
             other[9] += 2;
             due.is("43: the first wrong one", 1 + wrong, checked(x, other, 10, 5));
         }
+        int[] turned = {told[1], told[0]};
+        due.holds("43: taken and caught are unlike", told[0] != told[1]);
+        due.is("43: caught ahead of taken", 1, checked(x, turned, 2, 1));
         due.is("43: draws nothing now", z, x.count(9));
         due.is("43: the image is whole", 2, x.back());
         due.is("43: the image is whole", z, x.count(9));

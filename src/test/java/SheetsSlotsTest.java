@@ -107,6 +107,10 @@ public final class SheetsSlotsTest {
         x.sheet(0, 0, 24);
         due.is("35: all to 0", 6, x.pour(0));
         due.is("35: all to 0", 6, x.houseTold(0, 2));
+        for (int i = 0; i < 24; i++) {
+            x.mark(0, i, 1);
+        }
+        due.is("35: no more than there are bells", 6, x.pour(0));
         x.sheet(0, 0, 0);
         due.is("35: no places", 0, x.pour(0));
         x.sheet(0, 0, 1);

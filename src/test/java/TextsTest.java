@@ -195,6 +195,8 @@ public final class TextsTest {
             due.is("31: nothing is left", 2, x.textTold(x.why(0), 1));
             Due.tell(x, spoilt);
             due.is("30: nothing is left of '" + spoilt + "'", -106, Due.tell(x, "come a)"));
+            Due.tell(x, spoilt);
+            due.holds("30: nothing is left of '" + spoilt + "'", Due.tell(x, "come a<c") > 0);
         }
     }
 
