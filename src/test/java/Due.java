@@ -65,4 +65,20 @@ final class Due {
     static int draw(int z) {
         return z * 1103515245 + 12345;
     }
+
+    static int drawn(int z, int draws) {
+        for (int i = 0; i < draws; i++) {
+            z = draw(z);
+        }
+        return z;
+    }
+
+    /** A seed from which so many draws end in that rest by a number. */
+    static int seedFor(int rest, int by, int draws) {
+        int z = 0;
+        while ((drawn(z, draws) >>> 8) % by != rest) {
+            z++;
+        }
+        return z;
+    }
 }

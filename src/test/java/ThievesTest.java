@@ -246,15 +246,6 @@ public final class ThievesTest {
         due.is("18: of twelve, by lot", (first % 2 == 1 || first == 0 ? first : first + 1), x.choice(0));
     }
 
-    /** A seed from which the next draw has that rest by 10000. */
-    private static int seedFor(int rest) {
-        int z = 0;
-        while ((Due.draw(z) >>> 8) % 10000 != rest) {
-            z++;
-        }
-        return z;
-    }
-
     private static void nightsAtTheEdge() {
         TwoBells x = new TwoBells();
         x.house(0, 0);
@@ -262,13 +253,13 @@ public final class ThievesTest {
         x.door(0, 8);
         x.wire(0, 0, 1);
         x.thief(1, 1);
-        x.seed(seedFor(2499));
+        x.seed(Due.seedFor(2499, 10000, 1));
         due.is("19: just missed", 8, x.nights(1));
-        x.seed(seedFor(2500));
+        x.seed(Due.seedFor(2500, 10000, 1));
         due.is("19: just caught", 8, x.nights(1));
         due.is("19: just caught", 1, x.count(4));
         x.change(1, 0, 100);
-        x.seed(seedFor(0));
+        x.seed(Due.seedFor(0, 10000, 1));
         due.is("19: never missed", 8, x.nights(1));
         due.is("19: caught", 2, x.count(4));
     }
