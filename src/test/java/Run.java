@@ -17,6 +17,8 @@ import java.util.regex.Pattern;
  */
 final class Run {
     static final int MOST_CALLS = 512;
+    // Stands for the answer that a call did not give; no test waits for it.
+    private static final int THREW = 1234567891;
     private static final Pattern STATEMENT = Pattern.compile("\\s*(?:'([^']*)'|(\\w+)\\(([^)]*)\\))\\s*(?:([=!])\\s*(-?\\w+)\\s*)?(?:;|$)");
     private static final Map<String, Integer> NAMES = new HashMap<>();
     private static final Map<String, Method> METHODS = new HashMap<>();
@@ -44,7 +46,9 @@ final class Run {
         int on(TwoBells x) {
             try {
                 return (Integer) METHODS.get(name).invoke(x, with);
-            } catch (IllegalAccessException | InvocationTargetException e) {
+            } catch (InvocationTargetException e) {
+                throw new IllegalStateException(shown(), e.getCause());
+            } catch (IllegalAccessException e) {
                 throw new IllegalStateException(shown(), e);
             }
         }
@@ -155,7 +159,12 @@ final class Run {
         if (made.size() > MOST_CALLS) {
             edges.fails("the test makes more calls than the document allows");
         }
-        return call.on(x);
+        try {
+            return call.on(x);
+        } catch (IllegalStateException thrown) {
+            edges.fails(call.shown() + " threw " + thrown.getCause());
+            return THREW;
+        }
     }
 
     private TwoBells again() {
@@ -166,26 +175,34 @@ final class Run {
         return twin;
     }
 
-    /** Sets an object with that call beside one without it, and looks at all that can be seen of both. */
     private void changesNothing(Call call) {
         for (Picture picture : Picture.values()) {
-            // check lets nothing wait, text uses the tape up, whatever they answer.
-            if (call.name().equals("check") && picture == Picture.WAITING) {
-                continue;
+            // check lets nothing wait, whatever it answers.
+            if (!call.name().equals("check") || picture != Picture.WAITING) {
+                try {
+                    looks(call, picture);
+                } catch (RuntimeException thrown) {
+                    edges.fails(call.shown() + " was to be refused; what is seen behind it threw " + thrown);
+                }
             }
-            TwoBells with = again();
-            TwoBells without = again();
-            call.on(with);
-            if (call.name().equals("text")) {
-                without.trim(0);
-            }
-            List<Integer> seen = picture.of(with);
-            if (made.size() + 1 + seen.size() > MOST_CALLS) {
-                edges.fails(call.shown() + " comes too late to be looked at");
-            }
-            if (!seen.equals(picture.of(without))) {
-                edges.fails(call.shown() + " was refused, but changed something: " + picture);
-            }
+        }
+    }
+
+    /** Sets an object with that call beside one without it, and looks at one part of both. */
+    private void looks(Call call, Picture picture) {
+        TwoBells with = again();
+        TwoBells without = again();
+        call.on(with);
+        // text uses the tape up, whatever it answers.
+        if (call.name().equals("text")) {
+            without.trim(0);
+        }
+        List<Integer> seen = picture.of(with);
+        if (made.size() + 1 + seen.size() > MOST_CALLS) {
+            edges.fails(call.shown() + " comes too late to be looked at");
+        }
+        if (!seen.equals(picture.of(without))) {
+            edges.fails(call.shown() + " was refused, but changed something: " + picture);
         }
     }
 
@@ -193,7 +210,8 @@ final class Run {
     Run inTown() {
         does("house(80, 50); house(60, 100); house(100, 100); house(30, 30); door(0, 500); door(1, 900); door(2, 100)");
         does("wiring(); set(1, 2, 4); agree(1, 3, 1); thief(0, 0); thief(1, 1); thief(3, 1); patience(2); seed(7)");
-        does("'come a*c/110'; 'may p+q'; sheet(0, 0, 5); mark(0, 1, 9); mark(0, 4, -2); sheet(1, 1, 4); mark(1, 0, NONE); mark(1, 3, 70000)");
+        does("'come a*c/110'; 'may p+q'; sheet(0, 0, 5); mark(0, 1, 9); mark(0, 4, -2); sheet(1, 1, 4); mark(1, 0, NONE); "
+            + "mark(1, 3, 70000)");
         does("sheet(3, 0, 0); lay(0, 1, 2); lay(1, 2, 1); lay(2, 3, -77); lay(4, 2, 0); nights(2); keep()");
         int taken = asks("nights(1)");
         int caught = asks("count(4)");
